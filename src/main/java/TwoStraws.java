@@ -1087,14 +1087,17 @@ public final class TwoStraws {
             for (int x = 0; x <= whole; x++) {
                 byLevel[x] = gotFromGlass(b, x);
             }
+            int reach = numbers.ofStraw(a, REACH);
             int first = 0;
             int most = -1;
             for (int x = 0; x <= whole; x++) {
                 int left = byLevel[x] >= byLevel[whole - x] ? whole - x : x;
-                int got = gotFromGlass(a, left);
-                if (got > most) {
-                    most = got;
-                    first = x;
+                if (Math.max(0, left - reach) > most) {
+                    int got = gotFromGlass(a, left);
+                    if (got > most) {
+                        most = got;
+                        first = x;
+                    }
                 }
             }
             switch (what) {
@@ -1125,7 +1128,7 @@ public final class TwoStraws {
             }
             int was = numbers.told[place];
             int best = 0;
-            for (int v = 0; v <= most; v++) {
+            for (int v = 0; v <= most && (what != REACH || gain < mostAbove(v, bySweet)); v++) {
                 numbers.told[place] = v;
                 int gained = drunk(n).tells(straw, bySweet ? 1 : 0);
                 if (gained > gain) {
@@ -1135,6 +1138,12 @@ public final class TwoStraws {
             }
             numbers.told[place] = was;
             return best;
+        }
+
+        /** No straw gets more than all there is less its reach: once that is had, no higher reach needs a try. */
+        private int mostAbove(int reach, boolean bySweet) {
+            int above = Math.max(0, now.level + now.ice - reach);
+            return bySweet ? above * (1 + numbers.ofGlass(SUGAR)) : above;
         }
 
         int together(int n) {
