@@ -54,6 +54,7 @@ public final class PromiseTest {
         reachFor();
         slow();
         both();
+        bothUnlike();
         holeFor();
         stopFor();
         judge();
@@ -148,6 +149,12 @@ public final class PromiseTest {
         due("3 full before", x.straws(3, 0, 2), 0);
         due("3 the last one", x.of(2, 0), 1);
         due("3 no change", x.count(2), 0);
+        TwoStraws y = new TwoStraws();
+        bytes(y, 0, 1, 1, 1, 2, 2, 2);
+        due("3 no more than asked", y.straws(0, 0, 1), 1);
+        due("3 no more came", y.count(0), 1);
+        due("3 to the row's end", y.straws(0, 3, 3), 1);
+        due("3 the last one", y.of(1, 2), 2);
     }
 
     // promise 4
@@ -250,10 +257,10 @@ public final class PromiseTest {
         x.mend(1, 1, 4);
         String[] texts = {"p", "w", "t", "l/2", "d", "k+1", "2+3*4", "(2+3)*4", "20-5-3", "50/7/2", "50%7*2", "7-9", "-7/2+9", "-7%4+9", "5/0+3", "5%0+3",
             "0|5", "0|0", "3&2", "3&0", "1|0&0", "4<5", "5<4", "5=5", "5>4", "1+2=3", "!0", "!7", "!!7", "-!0+5", "!-0+4", "9999", "0?5;0?6", "0?5;4",
-            "1?5;4", "3-3?9;2&2?8;7", "9999*9999*9999*9999", "(0-2)*(-3)", "--4", "0007", "2*3=6&1", "k=1?10;20", "l>100?3;4", "1<2=1?8;9"};
+            "1?5;4", "3-3?9;2&2?8;7", "9999*9999*9999*9999", "(0-2)*(-3)", "--4", "0007", "2*3=6&1", "k=1?10;20", "l>100?3;4", "1<2=1?8;9", "4<4", "4>4", "1?0|5", "1?((((((6))))))", "0?1;0?2;3;4"};
         int[] worth = {5, 4, 8, 50, 60, 2, 14, 20, 12, 3, 2, 0, 6, 6, 3, 3,
             1, 0, 1, 0, 1, 1, 0, 1, 1, 1, 1, 0, 1, 4, 5, 99, 0, 4,
-            5, 8, 0, 6, 4, 7, 1, 10, 4, -1};
+            5, 8, 0, 6, 4, 7, 1, 10, 4, -1, 0, 0, 1, 6, 3};
         worth[36] = Math.max(0, Math.min(99, 9999 * 9999 * 9999 * 9999));
         for (int i = 0; i < texts.length; i++) {
             int answer = law(x, texts[i]);
@@ -402,6 +409,11 @@ public final class PromiseTest {
         x.fill(50);
         x.mend(0, 8, 0);
         due("11 ice never melts", x.empty(), -2);
+        x.fill(100);
+        x.straw(5, 0);
+        x.mend(0, 7, 2);
+        x.mend(0, 8, 9);
+        due("11 one stops, the other goes on", x.empty(), 19);
         TwoStraws y = new TwoStraws();
         y.straw(0, 0);
         due("11 stops at 999", y.empty(), 999);
@@ -428,6 +440,10 @@ public final class PromiseTest {
         due("12 by", x.more(3, 1), 6);
         x.straw(6, 0);
         due("12 of like ones the least", x.more(3, 0), 1);
+        x.mend(2, 0, 8);
+        x.mend(1, 0, 1);
+        due("12 the third", x.more(3, 0), 2);
+        due("12 than the least", x.more(3, 1), 21);
         due("12 none yet", x.more(0, 0), 0);
         due("12 none yet, by", x.more(0, 1), 0);
     }
@@ -483,6 +499,17 @@ public final class PromiseTest {
         due("14 at once", x.mark(1), 7);
         x.mend(0, 2, 999);
         due("14 a gets none", x.mark(1), 7);
+        x.mend(0, 2, 0);
+        x.mend(1, 2, 0);
+        x.fill(200);
+        law(x, "k=0?1;99");
+        due("14 the last at which b can still get as much", x.mark(1), 102);
+        law(x, "k=0?2;1");
+        due("14 as many as there are seconds left", x.mark(1), 134);
+        law(x, "k=0?t=0;t*0");
+        due("14 once is too much", x.mark(1), 200);
+        law(x, "1");
+        due("14 one each second", x.mark(1), 151);
     }
 
     // promise 15
@@ -510,6 +537,15 @@ public final class PromiseTest {
         due("15 b wants what it can reach", x.halves(1, 0), 150 - 99);
         due("15 of like glasses b takes the first", x.halves(1, 1), 150);
         due("15 and gets none", x.halves(1, 2), 0);
+        x.fill(999);
+        x.mend(1, 2, 0);
+        law(x, "2");
+        due("15 sixty seconds each", x.halves(1, 0), 120);
+        due("15 sixty seconds for a", x.halves(1, 1), 120);
+        due("15 sixty seconds for b", x.halves(1, 2), 120);
+        x.mend(0, 2, 900);
+        due("15 a wants most of it", x.halves(1, 0), 0);
+        due("15 b takes that", x.halves(1, 1), 0);
         x.fill(0);
         due("15 nothing", x.halves(1, 0), 0);
         due("15 nothing for a", x.halves(1, 1), 0);
@@ -537,6 +573,8 @@ public final class PromiseTest {
         x.mend(0, 10, 9);
         due("16 sweeter", x.reachFor(0, 2, 2), 99);
         due("16 how sweet", x.reachFor(0, 2, 3), 100);
+        due("16 not by how sweet", x.reachFor(0, 2, 0), 100);
+        due("16 not how sweet", x.reachFor(0, 2, 1), 18);
         law(x, "d=3?2");
         x.mend(0, 9, 0);
         x.ice(99);
@@ -558,6 +596,9 @@ public final class PromiseTest {
         due("17 as it is", x.slow(0, 5), 10);
         due("17 slowly is enough", x.slow(0, 50), 4);
         due("17 kept as it was", x.of(0, 0), 10);
+        x.mend(0, 7, 2);
+        due("17 stops as it does", x.slow(0, 50), 10);
+        x.mend(0, 7, 999);
         law(x, "p*(10-p)");
         due("17 the law likes less", x.slow(0, 1), 5);
     }
@@ -591,7 +632,36 @@ public final class PromiseTest {
         x.mend(1, 0, 1);
         x.mend(1, 2, 0);
         law(x, "t=0?p*(k+1);k=0?(l=200|l=197)*50;(l=199|l=198)*50");
+        due("18 all the same", x.both(2, 1), 101);
         due("18 one wants to be like the other, who does not", x.both(2, 0), -2);
+    }
+
+    // promise 18: unlike strengths, three straws, stops
+    private static void bothUnlike() {
+        TwoStraws x = new TwoStraws();
+        x.straw(20, 0);
+        x.straw(3, 0);
+        due("18 unlike", x.both(1, 0), 2003);
+        due("18 unlike, all", x.both(1, 1), 2003);
+        x.mend(0, 0, 3);
+        x.mend(1, 0, 20);
+        due("18 unlike the other way", x.both(1, 0), 320);
+        due("18 unlike the other way, all", x.both(1, 1), 320);
+        x.mend(0, 7, 0);
+        due("18 one has stopped", x.both(1, 0), 20);
+        due("18 one has stopped, all", x.both(1, 1), 20);
+        x.mend(0, 7, 999);
+        x.straw(20, 0);
+        x.fill(20);
+        law(x, "k=2?99;p");
+        due("18 beside a third", x.both(1, 1), 20);
+        x.mend(0, 9, 1);
+        x.mend(1, 2, 1);
+        x.mend(0, 10, 9);
+        x.fill(3);
+        x.mend(2, 7, 0);
+        law(x, "p");
+        due("18 the sweeter one's", x.both(1, 1), 300);
     }
 
     // promise 19
@@ -606,6 +676,7 @@ public final class PromiseTest {
         due("19 nobody else", x.holeFor(0, 999, 60), 0);
         x.straw(10, 0);
         due("19 half of his for the other", x.holeFor(0, 999, 60), 34);
+        due("19 half of the other's for him", x.holeFor(1, 999, 60), 34);
         due("19 none in time", x.holeFor(0, 999, 5), 0);
         x.mend(0, 6, 999);
         due("19 than without one", x.holeFor(0, 999, 60), 34);
@@ -756,6 +827,10 @@ public final class PromiseTest {
             }
             due("24 hiccups are tried", x.drawn(seed, 1, 0), (z >>> 8) % 12 < 5 ? 0 : 50);
         }
+        x.mend(0, 11, 0);
+        x.mend(0, 7, 3);
+        law(x, "1");
+        due("24 stops", x.drawn(1, 2, 0), 6);
         x.mend(0, 2, 200);
         due("24 not in deed", x.led(0, 2), 0);
         due("24 changes nothing", x.of(0, 12), 200);
@@ -780,6 +855,11 @@ public final class PromiseTest {
             y.second();
         }
         due("25 five hundred", y.of(0, 14), 500);
+        for (int i = 500; i < 999; i++) {
+            y.second();
+        }
+        due("25 no more", y.second(), -5);
+        due("25 999", y.of(0, 14), 999);
     }
 
     // promise 26
@@ -928,6 +1008,20 @@ public final class PromiseTest {
             due("32 of forty", x.redo(), i);
         }
         due("32 the last", x.of(0, 2), 41);
+        TwoStraws y = new TwoStraws();
+        y.straw(0, 0);
+        y.straw(0, 0);
+        for (int i = 0; i < 44; i++) {
+            y.mend(i % 2, i % 4 < 2 ? 0 : 2, i / 4 + 1);
+        }
+        for (int i = 0; i < 40; i++) {
+            y.undo();
+        }
+        due("31 the oldest are forgotten", y.of(0, 0) + 10 * y.of(0, 2) + 100 * y.of(1, 0) + 1000 * y.of(1, 2), 1111);
+        for (int i = 0; i < 40; i++) {
+            y.redo();
+        }
+        due("32 all again", y.of(0, 0) + 100 * y.of(0, 2) + 10000 * y.of(1, 0) + 1000000 * y.of(1, 2), 11111111);
     }
 
     // promise 33
@@ -964,6 +1058,24 @@ public final class PromiseTest {
         acts(x, 6, 0, 22, 70, 1);
         acts(x, 7, 1, 23, 80, 10, 20, 1, 50, 11, 20, 1);
         acts(x, 7, 3, 28, 81, 2, 80, 10, 20, 1, 50, 11, 20, 1, 50, 11, 20, 1);
+        acts(x, 1, 2, 4, 11);
+        acts(x, 1, 3, 18, 2, 10, 20, 1, 11);
+        acts(x, 2, 0, 7, 1);
+        acts(x, 2, 2, 7, 11);
+        acts(x, 2, 3, -17, 2, 30, 10, 1, 11);
+        acts(x, 3, 0, 8, 1);
+        acts(x, 3, 3, -24, 2, 41, 30, 10, 1, 40, 11);
+        acts(x, 4, 0, 12, 20, 1);
+        acts(x, 4, 1, 24, 10, 20, 1);
+        acts(x, 4, 3, 28, 2, 10, 20, 1, 50, 11, 20, 1);
+        acts(x, 5, 0, 10, 1);
+        acts(x, 5, 1, -22, 41, 30, 10, 1);
+        acts(x, 5, 2, 0, 40, 11);
+        acts(x, 6, 1, 44, 10, 70, 1);
+        acts(x, 6, 2, 3, 11);
+        acts(x, 6, 3, 37, 2, 10, 70, 1, 11);
+        acts(x, 7, 0, 15, 20, 1);
+        acts(x, 7, 2, -10, 50, 11, 20, 1);
         due("34 wraps", x.act(0, 1, Integer.MAX_VALUE), -2);
         due("34 no such act", x.act(0, 4, 5), 0);
         due("35 no trace then", x.count(4), 0);
@@ -1039,6 +1151,12 @@ public final class PromiseTest {
             x.put(0, 59, -1);
             due("39 sign " + sort, x.element(0, 59), sort == 4 ? 1 : -1);
         }
+        x.put(0, 0, 1);
+        due("39 true", x.element(0, 0), 1);
+        x.put(0, 0, 0);
+        due("39 false", x.element(0, 0), 0);
+        x.row(0, 3, 1);
+        x.put(0, 0, 5);
         x.row(0, 3, 0);
         due("38 no elements", x.put(0, 0, 1), -13);
         x.row(0, 3, 1);
@@ -1070,6 +1188,8 @@ public final class PromiseTest {
         due("40 j 4", x.shift(0, 0, 1, 4, 0), -13);
         due("40 j -1", x.shift(0, 0, 1, -1, 1), -13);
         due("40 too many", x.shift(0, 0, 1, 0, 4), -13);
+        due("40 too many from there", x.shift(0, 3, 1, 0, 3), -13);
+        due("40 too many to there", x.shift(0, 0, 1, 2, 2), -13);
         due("40 n -1", x.shift(0, 0, 1, 0, -1), -13);
         due("40 wraps", x.shift(0, 1, 1, 1, Integer.MAX_VALUE), -13);
         due("40 none came", x.element(1, 0), 0);
