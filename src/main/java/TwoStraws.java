@@ -17,6 +17,9 @@ public final class TwoStraws {
     private static final int MELTS = 8, SUGARED = 9, SUGAR = 10, HICCUPS = 11;
     private static final int OF_A_STRAW = 8, OF_THE_GLASS = 4;
 
+    /** STRONG, WIDE, REACH: what a row of bytes tells of each straw. */
+    private static final int TOLD_BY_ROW = 3;
+
     private static final int SORT_BYTES = 0, SORT_SHORTS = 1, SORT_INTS = 2, SORT_LONGS = 3, SORT_BOOLEANS = 4;
     private static final int HOLDS_NOTHING = -2, HOLDS_SIP = -1;
 
@@ -60,7 +63,7 @@ public final class TwoStraws {
     }
 
     public int straws(int shelf, int i, int n) {
-        if (!isShelf(shelf) || i < 0 || n < 1 || n > MOST_STRAWS) {
+        if (!isShelf(shelf) || n < 1 || n > MOST_STRAWS) {
             return BAD;
         }
         Shelf from = shelves[shelf];
@@ -72,9 +75,9 @@ public final class TwoStraws {
         }
         int came = 0;
         int place = i;
-        while (came < n && place <= from.size - 3 && addStraw(from, place)) {
+        while (came < n && from.hasPlaces(place, TOLD_BY_ROW) && addStraw(from, place)) {
             came++;
-            place += 3;
+            place += TOLD_BY_ROW;
         }
         return came;
     }

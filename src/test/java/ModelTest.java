@@ -373,7 +373,7 @@ public final class ModelTest {
         }
 
         int strawsFrom(int shelf, int i, int n) {
-            if (!is(shelf, 0, 5) || i < 0 || !is(n, 1, 3)) {
+            if (!is(shelf, 0, 5) || !is(n, 1, 3)) {
                 return BAD;
             }
             if (shelves[shelf] == null) {
@@ -385,7 +385,7 @@ public final class ModelTest {
             byte[] row = (byte[]) shelves[shelf];
             for (int came = 0; came < n; came++) {
                 int at = i + 3 * came;
-                if (at + 2 >= row.length || !is(row[at + 1], 1, 9) || straw(row[at], row[at + 2]) < 0) {
+                if (at < 0 || at + 2 >= row.length || !is(row[at + 1], 1, 9) || straw(row[at], row[at + 2]) < 0) {
                     return came;
                 }
                 straws.get(straws.size() - 1).n[1] = row[at + 1];

@@ -124,13 +124,26 @@ public final class PromiseTest {
         due("3 shelf 6", x.straws(6, 0, 1), -1);
         due("3 n 0", x.straws(0, 0, 0), -1);
         due("3 n 4", x.straws(0, 0, 4), -1);
-        due("3 i -1", x.straws(0, -1, 1), -1);
         due("3 missing", x.straws(0, 0, 3), 0);
+        int[] below = {-1, -2, -3, -4, -9, Integer.MIN_VALUE, Integer.MIN_VALUE + 2};
+        for (int i : below) {
+            due("3 missing from " + i, x.straws(0, i, 3), 0);
+            due("3 shelf 6 from " + i, x.straws(6, i, 3), -1);
+            due("3 n 0 from " + i, x.straws(0, i, 0), -1);
+            due("3 n 4 from " + i, x.straws(0, i, 4), -1);
+        }
         x.row(0, 1, 9);
         due("3 shorts", x.straws(0, 0, 3), -12);
+        due("3 shorts from -1", x.straws(0, -1, 3), -12);
         x.body(0);
         x.keep(0, 0);
         due("3 a sip", x.straws(0, 0, 3), -12);
+        due("3 a sip from -1", x.straws(0, -1, 3), -12);
+        bytes(x, 0, 1, 1, 1, 1, 1, 1, 1, 1, 1);
+        for (int i : below) {
+            due("3 no place " + i, x.straws(0, i, 3), 0);
+        }
+        due("3 none came from below", x.count(0), 0);
         bytes(x, 0, 5, 2, 100, 6, 9, 0, 7, 1);
         due("3 past the end", x.straws(0, 8, 1), 0);
         due("3 far past the end", x.straws(0, Integer.MAX_VALUE, 1), 0);
