@@ -41,6 +41,10 @@ public final class ChoiceEdgesTest {
         Edge.holds("16: the last bit of ice counts", "straw(10, 0)", "fill(0)", "ice(1)", "reachFor(0, 1, 1) = 0", "reachFor(0, 2, 1) = 1", "ice(1)", "reachFor(0, 3, 1) = 2");
         Edge.holds("16: SWEET likewise: a greater one further up", "straw(1, 0)", "mend(0, 9, 999)", "mend(0, 10, 9)", "law d=200?5;d=150?7;d=149?6", "reachFor(0, 1, 2) = 50", "reachFor(0, 1, 3) = 70", "mend(0, 10, 0)", "reachFor(0, 1, 2) = 50",
             "reachFor(0, 1, 3) = 7", "law d=200?5;d=1?5;d=7?6", "reachFor(0, 1, 2) = 193", "reachFor(0, 1, 3) = 6", "reachFor(0, 1, 0) = 193");
+        Edge.holds("16: of each STRAW its own", "straw(10, 0)", "straw(5, 100)", "straw(1, 7)", "law k=0&d=10?9;k=1&d=150?7;k=2&d=20?3;0", "reachFor(0, 1, 0) = 190", "reachFor(0, 1, 1) = 9", "reachFor(1, 1, 0) = 50", "reachFor(1, 1, 1) = 7",
+            "reachFor(2, 1, 0) = 180", "reachFor(2, 1, 1) = 3", "of(0, 2) = 0", "of(1, 2) = 100", "of(2, 2) = 7");
+        Edge.holds("16: what has melted counts", "straw(10, 0)", "fill(0)", "ice(2)", "mend(0, 8, 9)", "reachFor(0, 1, 1) = 0", "reachFor(0, 2, 1) = 2", "slow(0, 2) = 2");
+        Edge.holds("16: SWEET likewise: it may be more than all there is", "straw(1, 0)", "mend(0, 9, 999)", "mend(0, 10, 9)", "fill(10)", "law d=10?3;d=5?4", "reachFor(0, 1, 2) = 5", "reachFor(0, 1, 3) = 40", "reachFor(0, 1, 1) = 4");
         Edge.holds("16: all there is above it", "straw(1, 0)", "law d=200?5;d=6?6", "reachFor(0, 1, 0) = 194", "reachFor(0, 1, 1) = 6", "law d=200?5;d=5?5", "reachFor(0, 1, 0) = 0");
         Edge.holds("16: the others drink as they are", "straw(10, 0)", "straw(20, 0)", "fill(60)", "reachFor(0, 60, 0) = 0", "reachFor(0, 60, 1) = 20");
         Edge.holds("16: STOPS, EVERY, RESTS as they are", "straw(10, 0)", "mend(0, 7, 4)", "mend(0, 4, 1)", "mend(0, 5, 1)", "reachFor(0, 60, 1) = 20");
@@ -57,6 +61,8 @@ public final class ChoiceEdgesTest {
         Edge.holds("17: STRONG (0 .. as it is), 0 is tried, too", "straw(20, 0)", "law 20-p", "slow(0, 5) = 0", "law !(p-1)", "slow(0, 5) = 1", "law p=20", "slow(0, 5) = 20", "law p=19", "slow(0, 5) = 19");
         Edge.holds("17: of like ones the least", "straw(20, 0)", "law p=7|p=13", "slow(0, 5) = 7", "law 5", "slow(0, 5) = 0", "fill(9)", "law p", "slow(0, 1) = 9", "fill(0)", "slow(0, 60) = 0");
         Edge.holds("17: the last bit of ice counts", "straw(10, 0)", "fill(0)", "ice(1)", "slow(0, 1) = 0", "slow(0, 2) = 1");
+        Edge.holds("17: of each STRAW its own", "straw(20, 0)", "straw(4, 0)", "straw(9, 0)", "slow(0, 1) = 20", "slow(1, 1) = 4", "slow(2, 1) = 9", "law p=3+k", "slow(0, 1) = 3", "slow(1, 1) = 4", "slow(2, 1) = 5", "of(0, 0) = 20", "of(1, 0) = 4",
+            "of(2, 0) = 9");
         Edge.holds("17: more by one", "straw(20, 0)", "law (p=7)*5+(p=13)*6", "slow(0, 1) = 13", "law (p=7)*6+(p=13)*5", "slow(0, 1) = 7");
         Edge.holds("17: the STRONG is as it was", "straw(20, 0)", "slow(0, 60) = 6", "of(0, 0) = 20", "count(2) = 0");
     }
@@ -84,6 +90,12 @@ public final class ChoiceEdgesTest {
 
     // promise 18: all
     private static void all() {
+        Edge.holds("18: ALL: STRONG (0 .. as it is), unlike", "straw(20, 0)", "straw(3, 0)", "both(1, 1) = 2003");
+        Edge.holds("18: ALL: STRONG (0 .. as it is), unlike the other way", "straw(3, 0)", "straw(20, 0)", "both(1, 1) = 320");
+        Edge.holds("18: SELF: STRONG (0 .. as it is), unlike the other way", "straw(3, 0)", "straw(20, 0)", "both(1, 0) = 320");
+        Edge.holds("18: ALL: most SWEET: the other one is the sweeter", "straw(10, 1)", "straw(10, 0)", "fill(5)", "mend(0, 9, 1)", "both(1, 1) = 5", "law k=0?p;p/2", "both(1, 1) = 10");
+        Edge.holds("18: ALL: most SWEET, not most GOT", "straw(1, 1)", "straw(1, 0)", "fill(10)", "mend(0, 9, 1)", "law k=0?(t=0)*p*6;(t=1&l=10)*4", "both(2, 1) = 0", "mend(0, 10, 0)", "both(2, 1) = 100");
+        Edge.holds("18: ALL: most SWEET, not most GOT, the other way", "straw(1, 0)", "straw(1, 1)", "fill(10)", "mend(0, 9, 1)", "law k=1?(t=0)*p*6;(t=1&l=10)*4", "both(2, 1) = 0", "mend(0, 10, 0)", "both(2, 1) = 1");
         Edge.holds("18: ALL: of like ones the first", "2 x straw(5, 0)", "law 1", "both(9, 1) = 0", "law p=2|p=4", "both(9, 1) = 202");
         Edge.holds("18: ALL: of like ones the first: the one who takes it does not matter", "2 x straw(10, 0)", "fill(5)", "both(1, 1) = 5");
         Edge.holds("18: ALL: most SWEET: it is the sweeter one's", "straw(10, 0)", "straw(10, 1)", "fill(5)", "mend(0, 9, 1)", "both(1, 1) = 500", "mend(0, 10, 0)", "both(1, 1) = 104");
@@ -113,6 +125,8 @@ public final class ChoiceEdgesTest {
         Edge.holds("19: than without one, whatever it has", glass[0], glass[1], glass[2], "mend(0, 6, 999)", "holeFor(0, 0, 60) = 0", "holeFor(0, 999, 60) = 6", "of(0, 6) = 999");
         Edge.holds("19: the others keep theirs", glass[0], glass[1], glass[2], "mend(1, 6, 999)", "holeFor(0, 999, 60) = 7");
         Edge.holds("19: the others all together", "3 x straw(1, 0)", "law 10", "fill(60)", "holeFor(0, 999, 60) = 8", "holeFor(1, 999, 60) = 8", "holeFor(2, 999, 60) = 8");
+        Edge.holds("19: of each STRAW its own", "2 x straw(1, 0)", "law k=0?10;5", "fill(40)", "holeFor(0, 999, 9) = 7", "holeFor(1, 999, 9) = 6");
+        Edge.holds("19: GOT, not SWEET", "2 x straw(1, 0)", "law 10", "fill(40)", "mend(0, 9, 1)", "mend(0, 10, 9)", "holeFor(0, 999, 60) = 6");
         Edge.holds("19: nobody else", "straw(1, 0)", "law 10", "fill(40)", "holeFor(0, 999, 60) = 0");
         Edge.holds("19: less than without one", "2 x straw(10, 0)", "law k=0?10;l>185?0;10", "holeFor(0, 999, 3) = -10", "holeFor(0, 999, 2) = 0");
         Edge.holds("19: a worth of -1 is no refusal", "2 x straw(1, 0)", "law k=0?2;l<199", "holeFor(0, 200, 2) = 0", "holeFor(0, 201, 2) = -1", "holeFor(0, 999, 2) = -1");
@@ -132,6 +146,7 @@ public final class ChoiceEdgesTest {
         Edge.holds("20: others stop as they do", "2 x straw(10, 0)", "fill(40)", "stopFor(0) = 2", "mend(1, 7, 0)", "stopFor(0) = 4");
         Edge.holds("20: by s, not from now", "straw(10, 0)", "fill(40)", "2 x second()", "stopFor(0) = 4", "2 x second()", "stopFor(0) = 0");
         Edge.holds("20: by s: STOPS of that second is enough", "straw(10, 0)", "fill(40)", "second()", "stopFor(0) = 4", "mend(0, 7, 4)", "glass(99, 0, 0) = 30", "mend(0, 7, 3)", "glass(99, 0, 0) = 20");
+        Edge.holds("20: of each STRAW its own", "3 x straw(1, 0)", "law k=0?t<3;k=1?t<7;t<5", "mend(1, 7, 2)", "mend(2, 7, 0)", "stopFor(0) = 3", "stopFor(1) = 7", "stopFor(2) = 5");
         Edge.holds("20: rests lie between", "straw(10, 0)", "fill(20)", "mend(0, 4, 1)", "mend(0, 5, 60)", "stopFor(0) = 62");
     }
 }

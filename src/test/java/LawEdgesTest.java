@@ -338,6 +338,8 @@ public final class LawEdgesTest {
         Edge.holds("8: less t by TIRES (cut), 10", "straw(6, 0)", "wants(0, 200, 9) = 6", "wants(0, 200, 10) = 5", "wants(0, 200, 19) = 5", "wants(0, 200, 20) = 4", "wants(0, 200, 59) = 1", "wants(0, 200, 60) = 0");
         Edge.holds("8: less t by TIRES (cut), 1", "straw(6, 0)", "mend(0, 3, 1)", "wants(0, 200, 0) = 6", "wants(0, 200, 1) = 5", "wants(0, 200, 6) = 0");
         Edge.holds("8: less t by TIRES (cut), 99", "straw(6, 0)", "mend(0, 3, 99)", "wants(0, 200, 98) = 6", "wants(0, 200, 99) = 5", "wants(0, 200, 999) = 0", "mend(0, 0, 12)", "wants(0, 200, 999) = 2");
+        Edge.holds("8: of each STRAW its own", "straw(10, 0)", "straw(7, 0)", "straw(3, 0)", "mend(1, 1, 6)", "mend(2, 1, 1)", "mend(0, 3, 1)", "mend(1, 3, 2)", "wants(0, 200, 9) = 1", "wants(1, 200, 9) = 10", "wants(2, 200, 9) = 1",
+            "law p*w+k", "wants(0, 200, 9) = 30", "wants(1, 200, 9) = 43", "wants(2, 200, 9) = 5");
         Edge.holds("8: no less than 0", "straw(6, 0)", "mend(0, 3, 1)", "wants(0, 200, 7) = 0", "wants(0, 200, 999) = 0", "straw(0, 0)", "wants(1, 200, 0) = 0", "wants(1, 200, 999) = 0");
         Edge.holds("8: cut ahead of the less", "straw(5, 0)", "mend(0, 1, 1)", "wants(0, 200, 10) = 0", "mend(0, 1, 2)", "wants(0, 200, 15) = 2");
     }

@@ -107,6 +107,7 @@ public final class RingEdgesTest {
         Edge.holds("24: 60 seconds each", "straw(1, 0)", "law t=59?50", "drawn(7, 1, 0) = 50", "law t=60?50", "drawn(7, 1, 0) = 0", "law t=58?50", "drawn(7, 2, 0) = 100");
         Edge.holds("24: each glass as it is now", "straw(1, 0)", "law 1", "fill(10)", "ice(2)", "drawn(7, 1, 0) = 12", "drawn(7, 3, 0) = 36", "drawn(7, 3, -1) = 0", "second()", "drawn(7, 3, 0) = 33");
         Edge.holds("24: STOPS, EVERY, RESTS count", "straw(1, 0)", "law 1", "mend(0, 7, 5)", "drawn(7, 2, 0) = 10", "mend(0, 7, 999)", "mend(0, 4, 1)", "mend(0, 5, 1)", "drawn(7, 2, 0) = 60");
+        Edge.holds("24: GOT, not SWEET", "straw(1, 0)", "law 1", "mend(0, 9, 1)", "mend(0, 10, 9)", "drawn(7, 2, 0) = 120");
         Edge.holds("24: HICCUPS 0: never", "straw(1, 0)", "law 1", "drawn(12345, 20, 0) = 1200");
         Edge.holds("24: HICCUPS 12: ever", "straw(1, 0)", "law 1", "mend(0, 11, 12)", "drawn(12345, 20, 0) = 0", "drawn(12345, 20, -1) = 4000");
         Edge.holds("24: HICCUPS are of glasses by draws alone", "straw(1, 0)", "law 1", "mend(0, 11, 12)", "glass(9, 0, 0) = 9", "stopFor(0) = 99", "turns(9, 10, 0) = 9", "second() = 199");

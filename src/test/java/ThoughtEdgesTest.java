@@ -189,6 +189,9 @@ public final class ThoughtEdgesTest {
         Edge.holds("12: of like ones the least, the first and the last", "straw(10, 0)", "straw(9, 0)", "straw(10, 0)", "more(5, 0) = 0", "more(5, 1) = 5");
         Edge.holds("12: by one", "straw(1, 0)", "straw(1, 0)", "straw(2, 0)", "more(1, 0) = 2", "more(1, 1) = 1");
         Edge.holds("12: than the least, not than the next", "straw(10, 0)", "straw(3, 0)", "straw(7, 0)", "more(1, 0) = 0", "more(1, 1) = 7");
+        Edge.holds("12: by GOT, not by SWEET", "straw(10, 50)", "straw(9, 0)", "mend(0, 9, 1)", "mend(0, 10, 9)", "more(1, 0) = 0", "more(1, 1) = 1");
+        Edge.holds("12: by GOT, not by SWEET, the other way", "straw(9, 0)", "straw(10, 50)", "mend(0, 9, 1)", "mend(0, 10, 9)", "more(1, 0) = 1", "more(1, 1) = 1");
+        Edge.holds("12: by how much more GOT, not SWEET", "straw(10, 0)", "straw(9, 50)", "mend(0, 9, 1)", "mend(0, 10, 9)", "more(1, 0) = 0", "more(1, 1) = 1");
         Edge.holds("12: one alone", "straw(10, 0)", "more(5, 0) = 0", "more(5, 1) = 0");
     }
 
@@ -215,6 +218,7 @@ public final class ThoughtEdgesTest {
         Edge.holds("13: sixty seconds each", there[0], there[1], "turns(60, 600, 1) = 0", "turns(61, 600, 1) = 5", "turns(120, 600, 0) = 10", "turns(120, 601, 0) = 10", "turns(60, 601, 0) = 0", "turns(61, 601, 0) = 1");
         Edge.holds("13: alone: of little it gets all", "straw(20, 0)", "straw(20, 0)", "fill(7)", "turns(1, 10, 0) = 7", "turns(2, 10, 1) = 0");
         Edge.holds("13: one straw alone has every turn", "straw(1, 0)", "turns(9, 10, 0) = 9", "turns(9, 40, 0) = 9");
+        Edge.holds("13: GOT, not SWEET", "straw(1, 0)", "mend(0, 9, 1)", "mend(0, 10, 9)", "turns(9, 10, 0) = 9");
         Edge.holds("13: without STOPS", "straw(1, 0)", "mend(0, 7, 0)", "turns(9, 10, 0) = 9", "glass(9, 0, 0) = 0");
         Edge.holds("13: without STOPS, at second 999, too", "straw(1, 0)", "law 1", "fill(999)", "ice(99)", "second()", "turns(999, 10, 0) = 999", "glass(999, 0, 0) = 998");
         Edge.holds("13: it breathes by s", "straw(1, 0)", "straw(5, 0)", "mend(1, 4, 1)", "mend(1, 5, 1)", "turns(4, 20, 1) = 5", "turns(4, 10, 1) = 0", "second()", "turns(2, 10, 1) = 5");
@@ -228,6 +232,7 @@ public final class ThoughtEdgesTest {
         Edge.holds("14: a GOT no more than b: one less is too little for b", "2 x straw(10, 0)", "fill(199)", "mark(1) = 109");
         Edge.holds("14: a GOT no more than b: one more", "2 x straw(10, 0)", "fill(201)", "mark(1) = 101");
         Edge.holds("14: at the beginning, too", "straw(10, 0)", "straw(10, 200)", "mark(1) = 200", "fill(999)", "mend(1, 2, 999)", "mark(1) = 999");
+        Edge.holds("14: by GOT, not by SWEET", "straw(10, 0)", "straw(10, 1)", "fill(201)", "mend(0, 9, 1)", "mend(0, 10, 9)", "mark(1) = 101", "mark(10) = 101");
         Edge.holds("14: LEVEL 0", "2 x straw(10, 0)", "fill(0)", "mark(1) = 0");
         Edge.holds("14: LEVEL 1", "2 x straw(10, 0)", "fill(1)", "mark(1) = 1");
         Edge.holds("14: LEVEL 2", "2 x straw(1, 0)", "fill(2)", "mark(1) = 1", "fill(3)", "mark(1) = 2");
@@ -280,6 +285,7 @@ public final class ThoughtEdgesTest {
         halves("60 seconds from now, much more", 60, 60, 60, "2 x straw(1, 0)", "law 1", "fill(999)");
         halves("without STOPS", 100, 100, 100, "2 x straw(10, 0)", "mend(0, 7, 0)", "mend(1, 7, 0)");
         halves("without ICE", 0, 0, 1, "2 x straw(10, 0)", "fill(1)", "ice(99)", "mend(0, 8, 9)");
+        halves("GETS, not SWEET", 100, 100, 100, "2 x straw(10, 0)", "mend(0, 9, 1)", "mend(0, 10, 9)");
         halves("alone", 100, 100, 100, "2 x straw(10, 0)", "straw(20, 0)");
         halves("from now: who has drawn is tired", 0, 0, 0, "2 x straw(1, 0)", "law t=0", "second()");
         halves("from now: s of now", 0, 2, 0, "2 x straw(1, 0)", "law 1", "fill(2)", "ice(5)", "mend(1, 4, 1)", "mend(1, 5, 60)", "mend(0, 8, 2)", "second()");
