@@ -2,15 +2,11 @@ import java.lang.reflect.Constructor;
 import java.lang.reflect.Field;
 import java.lang.reflect.Method;
 import java.lang.reflect.Modifier;
-import java.nio.file.Files;
-import java.nio.file.Path;
 import java.util.Arrays;
 import java.util.Set;
 import java.util.TreeSet;
-import java.util.regex.Matcher;
-import java.util.regex.Pattern;
 
-/** The public face of the document, and those rules of LANGUAGE.md that can be seen by looking. Takes the path of the class's source. */
+/** The public face of the document, and what rules 1, 2, 5 and 11 of LANGUAGE.md say of the made classes; the other rules are looked at by RulesTest. */
 public final class LanguageTest {
     private static final String[] FACE = {
         "int straw(int,int)", "int straws(int,int,int)", "int mend(int,int,int)", "int of(int,int)", "int feed(int)", "int law()", "int wants(int,int,int)",
@@ -19,9 +15,6 @@ public final class LanguageTest {
         "int since(int,int)", "int drawn(int,int,int)", "int second()", "int fill(int)", "int ice(int)", "int led(int,int)", "int image()", "int back()", "int undo()",
         "int redo()", "int body(int)", "int act(int,int,int)", "int trace(int)", "int keep(int,int)", "int row(int,int,int)", "int put(int,int,long)",
         "long element(int,int)", "int shift(int,int,int,int,int)", "int taken(int,int)", "int count(int)"};
-    private static final String[] FORBIDDEN = {
-        "throw", "throws", "try", "catch", "finally", "synchronized", "assert", "import", "package", "volatile", "transient", "native", "strictfp", "yield", "var",
-        "double", "float", "Object", "System\\.(?!arraycopy)\\w*", "Math\\.\\w*Exact", "Thread", "hashCode", "toString", "static\\s*\\{"};
 
     private static int wrong = 0;
 
@@ -32,12 +25,9 @@ public final class LanguageTest {
         }
     }
 
-    public static void main(String[] args) throws Exception {
+    public static void main(String[] args) {
         face();
         classes();
-        if (args.length > 0) {
-            source(Files.readString(Path.of(args[0])));
-        }
         System.out.println(wrong == 0 ? "the face and the rules hold" : wrong + " faults");
         if (wrong != 0) {
             System.exit(1);
@@ -61,6 +51,7 @@ public final class LanguageTest {
                 found.add(told(m));
             } else {
                 must(Modifier.isPrivate(m.getModifiers()), m.getName() + " is neither public nor private");
+                must(!names().contains(m.getName()), "a private method is named as a public one: " + m.getName());
             }
         }
         must(found.equals(wanted), "the face is " + found);
@@ -78,11 +69,16 @@ public final class LanguageTest {
         must(constants.equals(new TreeSet<>(Arrays.asList("BAD", "NOT", "FULL", "STATE", "VOID"))), "the constants are " + constants);
     }
 
-    private static void classes() {
+    private static Set<String> names() {
         Set<String> names = new TreeSet<>();
         for (String one : FACE) {
             names.add(one.substring(one.indexOf(' ') + 1, one.indexOf('(')));
         }
+        return names;
+    }
+
+    private static void classes() {
+        Set<String> names = names();
         Class<?>[] inside = TwoStraws.class.getDeclaredClasses();
         must(inside.length < 12, "more than twelve classes");
         for (Class<?> c : inside) {
@@ -109,38 +105,6 @@ public final class LanguageTest {
         for (Method m : c.getDeclaredMethods()) {
             must(m.getParameterCount() <= 7, m + " has too many parameters");
             must(!m.isSynthetic(), m + " is made by the compiler");
-        }
-    }
-
-    private static void source(String text) {
-        for (int i = 0; i < text.length(); i++) {
-            must(text.charAt(i) >= 1 && text.charAt(i) <= 127, "a sign beyond 127 at " + i);
-        }
-        String code = text.replaceAll("(?s)/\\*.*?\\*/", "").replaceAll("//[^\n]*", "").replaceAll("'(\\\\.|[^'])'", "' '");
-        for (String word : FORBIDDEN) {
-            Matcher m = Pattern.compile("\\b" + word).matcher(code);
-            while (m.find()) {
-                boolean whole = m.end() >= code.length() || !Character.isJavaIdentifierPart(code.charAt(m.end())) || word.endsWith("*") || word.endsWith("{");
-                must(!whole, "the source has " + m.group());
-            }
-        }
-        must(!code.contains("->") && !code.contains("::") && !code.contains("\"") && !code.contains("@"), "a lambda, a reference, a text or a note of the compiler");
-        lengths(code);
-    }
-
-    /** Methods stand at one of two depths, so their lines can be counted by their indent. */
-    private static void lengths(String code) {
-        String[] lines = code.split("\n");
-        for (String indent : new String[] {"    ", "        "}) {
-            int from = -1;
-            for (int i = 0; i < lines.length; i++) {
-                if (lines[i].matches(indent + "[a-zA-Z].*\\) \\{")) {
-                    from = i;
-                } else if (lines[i].equals(indent + "}") && from >= 0) {
-                    must(i - from < 60, "too long: " + lines[from].trim());
-                    from = -1;
-                }
-            }
         }
     }
 }
